@@ -1,0 +1,20 @@
+/** Runs every test of the project. */
+public final class AllTests {
+    private AllTests() {
+    }
+
+    public static void main(String[] args) {
+        FaceTest.run();
+        ContractsTest.run();
+        LeaveTest.run();
+        ElementsTest.run();
+        TablesTest.run();
+        SlipsTest.run();
+        GarnishmentsTest.run();
+        ClosingTest.run();
+        RandomRunsTest.run();
+        if (!Check.end()) {
+            System.exit(1);
+        }
+    }
+}

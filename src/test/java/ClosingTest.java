@@ -1,0 +1,4 @@
+final class ClosingTest {
+    static void run() {
+    }
+}

@@ -1,0 +1,4 @@
+final class ContractsTest {
+    static void run() {
+    }
+}

@@ -1,0 +1,4 @@
+final class ElementsTest {
+    static void run() {
+    }
+}

@@ -1,0 +1,4 @@
+final class GarnishmentsTest {
+    static void run() {
+    }
+}

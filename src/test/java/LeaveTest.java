@@ -1,0 +1,4 @@
+final class LeaveTest {
+    static void run() {
+    }
+}

@@ -1,0 +1,4 @@
+final class SlipsTest {
+    static void run() {
+    }
+}

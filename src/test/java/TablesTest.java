@@ -1,0 +1,4 @@
+final class TablesTest {
+    static void run() {
+    }
+}
