@@ -278,7 +278,8 @@ public final class Taxmaze {
         needAllowed(isMonth(openMonth));
         int before = made.size();
         for (int person = 0; person < PEOPLE; person++) {
-            payOut(person);
+            bookOf(person);
+            payOut(people[person]);
         }
         for (int place = 0; place < PLACES; place++) {
             for (int month = 0; month <= openMonth; month++) {
@@ -316,7 +317,8 @@ public final class Taxmaze {
 
     public long owed(int person) throws IndexOutOfBoundsException {
         needThere(isPerson(person));
-        return unpaid(person);
+        bookOf(person);
+        return unpaid(people[person]);
     }
 
     public long filed(int place, int month, boolean taxes) throws IndexOutOfBoundsException {
@@ -331,28 +333,29 @@ public final class Taxmaze {
 
     // ---- inside
 
-    private void payOut(int person) {
+    /** Pays what is unpaid to a person whose book is fresh. */
+    private void payOut(Person person) {
         long cents = unpaid(person);
         if (cents > 0) {
-            made.add(new Payment(person, openMonth, cents));
-            people[person].paid += cents;
+            made.add(new Payment(person.number, openMonth, cents));
+            person.paid += cents;
         }
     }
 
-    private long unpaid(int person) {
-        Book book = bookOf(person);
+    private long unpaid(Person person) {
         long sum = 0;
         for (int month = 0; month <= openMonth && month < MONTHS; month++) {
-            sum += book.payouts[month];
+            sum += person.book.payouts[month];
         }
-        return sum - people[person].paid;
+        return sum - person.paid;
     }
 
+    /** Files a month of a place by the books of all people, which are fresh. */
     private void fileMonth(int place, int month) {
         long taxes = 0;
         long contributions = 0;
         for (int person = 0; person < PEOPLE; person++) {
-            Book book = bookOf(person);
+            Book book = people[person].book;
             taxes += book.taxes[place][month];
             contributions += book.contributions[place][month];
         }
@@ -362,12 +365,18 @@ public final class Taxmaze {
     /** The book of a person who is there, reckoned anew if something was told since. */
     private Book bookOf(int number) {
         Person person = people[number];
-        if (person.book.stale) {
+        Book book = person.book;
+        if (book.stale) {
             person.takeLeave(DAYS, leaveRate, leaveCarry, leaveTerm);
-            person.payLeave();
-            person.book.fill(person, elements, places);
+            person.refreshContracts();
+            for (int month = 0; month < MONTHS; month++) {
+                book.gather(month, person, elements);
+                book.reckon(month, person, places);
+            }
+            book.share(person);
+            book.stale = false;
         }
-        return person.book;
+        return book;
     }
 
     private void makeAllStale() {
@@ -551,14 +560,22 @@ public final class Taxmaze {
             return Math.max(byDay, all - 5 * norm);
         }
 
+        /** What was reckoned when the contract was refreshed last. */
         long baseIn(int month) {
-            if (stale) {
-                fillWorked();
-            }
             return worked[month] + leavePay[month];
         }
 
-        void fillWorked() {
+        void refresh() {
+            for (int month = 0; month < MONTHS; month++) {
+                leavePay[month] = 0;
+            }
+            if (stale) {
+                fillWorked();
+                stale = false;
+            }
+        }
+
+        private void fillWorked() {
             for (int month = 0; month < MONTHS; month++) {
                 fillMonth(month);
             }
@@ -566,10 +583,9 @@ public final class Taxmaze {
                 int last = Math.min(week * WEEK_DAYS + WEEK_DAYS, DAYS) - 1;
                 worked[last / MONTH_DAYS] += overtimePay(overtimeIn(week), last);
             }
-            stale = false;
         }
 
-        void fillMonth(int month) {
+        private void fillMonth(int month) {
             long sum = 0;
             int minutes = 0;
             int first = month * MONTH_DAYS;
@@ -585,7 +601,7 @@ public final class Taxmaze {
             worked[month] = Cents.rounded(sum, byHours ? HOUR : MONTH_DAYS);
         }
 
-        long overtimePay(int overtime, int day) {
+        private long overtimePay(int overtime, int day) {
             if (overtime <= 0) {
                 return 0;
             }
@@ -679,12 +695,10 @@ public final class Taxmaze {
             return carried + fresh;
         }
 
-        void payLeave() {
+        /** Makes the bases of all contracts fresh; which leave is taken has to be found ahead of it. */
+        void refreshContracts() {
             for (int i = 0; i < contracts.size(); i++) {
-                long[] leavePay = contracts.get(i).leavePay;
-                for (int month = 0; month < MONTHS; month++) {
-                    leavePay[month] = 0;
-                }
+                contracts.get(i).refresh();
             }
             for (int i = 0; i < leaves.size(); i++) {
                 Leave leave = leaves.get(i);
@@ -911,39 +925,25 @@ public final class Taxmaze {
         final long[] taken = new long[MONTHS];
         final long[] payouts = new long[MONTHS];
 
-        void fill(Person person, Elements elements, Place[] places) {
-            for (int month = 0; month < MONTHS; month++) {
-                gather(month, person);
-                addElements(month, person, elements);
-                reckon(month, person, places);
-            }
-            share(person);
-            stale = false;
-        }
-
-        private void gather(int month, Person person) {
+        /** Adds up the gross of a month by places; the contracts of the person are fresh. */
+        void gather(int month, Person person, Elements elements) {
             for (int place = 0; place < PLACES; place++) {
                 gross[place][month] = person.bonuses[place][month];
             }
             int home = NONE;
-            for (int i = 0; i < person.contracts.size(); i++) {
-                Contract contract = person.contracts.get(i);
-                gross[contract.place][month] += contract.baseIn(month);
-                if (home == NONE && contract.hasDayIn(month)) {
-                    home = contract.place;
-                }
-            }
-            homes[month] = Math.max(home, 0);
-        }
-
-        private void addElements(int month, Person person, Elements elements) {
             long bases = 0;
             long minutes = 0;
             for (int i = 0; i < person.contracts.size(); i++) {
                 Contract contract = person.contracts.get(i);
-                bases += contract.baseIn(month);
+                long base = contract.baseIn(month);
+                gross[contract.place][month] += base;
+                bases += base;
                 minutes += contract.minutesIn[month];
+                if (home == NONE && contract.hasDayIn(month)) {
+                    home = contract.place;
+                }
             }
+            homes[month] = home == NONE ? 0 : home;
             elements.reckonAll(person.number, bases, minutes / HOUR);
             for (int element = 0; element < MOST_ELEMENTS; element++) {
                 elementSums[element][month] = elements.values[element];
@@ -999,7 +999,7 @@ public final class Taxmaze {
         }
 
         /** Gives garnishments and advances their parts of each net. */
-        private void share(Person person) {
+        void share(Person person) {
             long advanced = 0;
             for (int month = 0; month < MONTHS; month++) {
                 long left = nets[month];

@@ -41,9 +41,16 @@ final class Check {
         try {
             call.run();
         } catch (RuntimeException e) {
-            nameOfLast = e.getClass().getSimpleName();
+            nameOfLast = nameOf(e);
         }
         return nameOfLast;
+    }
+
+    /** The exception's name, marked if the class did not throw it itself: the machine and the library have to be kept from it. */
+    static String nameOf(Throwable thrown) {
+        StackTraceElement[] trace = thrown.getStackTrace();
+        boolean own = trace.length > 0 && trace[0].getClassName().startsWith("Taxmaze");
+        return (own ? "" : "not by the class: ") + thrown.getClass().getSimpleName();
     }
 
     static void tell(boolean holds, String what, String got, String due) {

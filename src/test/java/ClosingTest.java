@@ -136,6 +136,8 @@ final class ClosingTest {
         x.bonus(0, 0, 1, 1000);
         x.bonus(5, 0, 1, 2000);
         x.bonus(5, 0, 2, 9000);
+        x.bonus(3, 0, 0, 70);
+        x.contribution(0, 0, 100, 100000000);
         x.bonus(0, 1, 1, 1000);
         return x;
     }
@@ -146,7 +148,8 @@ final class ClosingTest {
         x.close();
         Check.same("34: taxes of all people", x.filed(1, 0, true), 180 + 360);
         Check.same("34: contributions of all people", x.filed(1, 0, false), 300);
-        Check.same("34: of another place", x.filed(2, 0, true) + x.filed(2, 0, false), 0);
+        Check.same("34: of the place 2", x.filed(2, 0, true) + x.filed(2, 0, false), 0);
+        Check.same("34: of the place 0", x.filed(0, 0, true) * 100 + x.filed(0, 0, false), 7);
         Check.same("34: the next is not closed", x.filed(1, 1, true), 0);
         x.bonus(5, 0, 1, 0);
         Check.same("34: what was filed last", x.filed(1, 0, true), 540);

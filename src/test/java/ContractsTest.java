@@ -176,6 +176,9 @@ final class ContractsTest {
         x.shift(1, 719, 1000, 1000);
         Check.same("5: not behind the day 719", x.minutes(1, 719), 440);
         Check.same("5: of another contract", x.minutes(1, 0), 0);
+        x.contract(0, 0, 718, 719, true, 480, 1000);
+        x.shift(2, 718, 1400, 100);
+        Check.same("5: on the day 719", x.minutes(2, 719), 60);
     }
 
     private static void overtime() {

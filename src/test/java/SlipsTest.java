@@ -79,6 +79,14 @@ final class SlipsTest {
             }
         }
         Check.same("21: without a contract", x.slipIn(1, 5, 0, Taxmaze.GROSS), 1000);
+        Taxmaze z = new Taxmaze();
+        z.contract(0, 1, 30, 59, false, 480, 0);
+        z.contract(0, 2, 0, 719, false, 480, 0);
+        z.word(Taxmaze.MONEY, 1000);
+        z.element(0, 63);
+        Check.same("21: the day ahead of a contract", z.slipIn(0, 0, 2, Taxmaze.GROSS), 1000);
+        Check.same("21: the days of it", z.slipIn(0, 1, 1, Taxmaze.GROSS), 1000);
+        Check.same("21: the day behind it", z.slipIn(0, 2, 2, Taxmaze.GROSS), 1000);
         Taxmaze y = new Taxmaze();
         y.contract(0, 2, 0, 719, false, 480, 0);
         y.bonus(0, 0, 1, 10000);
@@ -99,6 +107,8 @@ final class SlipsTest {
         Check.same("20: 1500 a year, 1350 on it, eight twelfths", x.slip(0, 7, Taxmaze.TAX), 1);
         Check.same("20: 1333 a year, 1199 on it, nine twelfths", x.slip(0, 8, Taxmaze.TAX), -1);
         Check.same("20: a new year", x.slip(0, 12, Taxmaze.TAX), 0);
+        x.bonus(1, 6, 0, 1005);
+        Check.same("20: 1722.86 a year are 1722, 1549 on it", x.slip(1, 6, Taxmaze.TAX), 903);
         Taxmaze y = new Taxmaze();
         y.bracket(0, 0, 0, 1200000, 0);
         y.bracket(0, 0, 0, 2400000, 200);

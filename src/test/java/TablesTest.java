@@ -46,6 +46,8 @@ final class TablesTest {
         Check.same("15: rounded down", x.slip(0, 0, Taxmaze.CONTRIBUTION), 0);
         x.contribution(1, 0, 500, 100000000);
         Check.same("15: of another place", x.slip(0, 0, Taxmaze.CONTRIBUTION), 0);
+        x.contribution(0, 0, 500, 0);
+        Check.same("15: a ceiling of 0", x.slip(0, 0, Taxmaze.CONTRIBUTION), 0);
     }
 
     private static void ceilings() {
@@ -107,8 +109,9 @@ final class TablesTest {
         Check.same("16: another state", x.bracket(0, 1, 0, 1, 900), 1);
         Check.same("16: another place", x.bracket(2, 0, 0, 1, 0), 1);
         Check.same("16: the third", x.bracket(0, 0, 0, 3000, 300), 3);
-        Check.same("16: the fourth", x.bracket(0, 0, 0, BILLION, 400), 4);
+        Check.same("16: the fourth", x.bracket(0, 0, 0, BILLION - 1, 400), 4);
         Check.refused("16: five", () -> x.bracket(0, 0, 0, BILLION, 400));
+        Check.same("16: five in a later month, the first there", x.bracket(0, 0, 1, BILLION, 400), 1);
         Check.unfit("16: the end ahead of five", () -> x.bracket(0, 0, 0, 0, 400));
         Check.same("16: all four", x.yearTax(0, 0, 0, 4000), 100 + 200 + 300 + 400);
     }
@@ -194,8 +197,10 @@ final class TablesTest {
         x.pension(0, 0, 20);
         x.bonus(0, 0, 0, 25);
         Check.same("18: halves up", x.slip(0, 0, Taxmaze.PENSION), 1);
+        Check.same("18: the employer's too", x.slip(0, 0, Taxmaze.MATCH), 1);
         x.bonus(0, 0, 0, 24);
         Check.same("18: less than a half", x.slip(0, 0, Taxmaze.PENSION), 0);
+        Check.same("18: less than a half of the employer's", x.slip(0, 0, Taxmaze.MATCH), 0);
         x.bonus(0, 0, 0, -100000);
         Check.same("18: 0 of less than 0", x.slip(0, 0, Taxmaze.PENSION) + x.slip(0, 0, Taxmaze.MATCH), 0);
         x.bonus(0, 0, 2, 300000);
