@@ -266,7 +266,19 @@ final class PlainModel {
         return answer;
     }
 
-    private static int pileOf(List<Word> words) {
+    Contract contractOf(int contract) {
+        return isContract(contract) ? contracts.get(contract) : null;
+    }
+
+    List<Word> draft() {
+        return draft;
+    }
+
+    int elements() {
+        return elements.size();
+    }
+
+    static int pileOf(List<Word> words) {
         int high = 0;
         for (Word word : words) {
             high += word.what <= 3 ? 1 : -1;

@@ -9,20 +9,21 @@ import java.util.Random;
 final class RandomRunsTest {
     private static final int RUNS = 240;
     private static final int CALLS = 512;
+    private static final int SWEEP_CALLS = 24 * 8;
 
     /** Each call with what its arguments are, and how often it is made. */
     private static final String[] CALL_KINDS = {
         "6 contract person place day day bool norm pay",
         "20 pay contract day pay",
-        "40 shift contract shiftDay minute length",
+        "40 shift contract contractDay minute length",
         "6 minutes contract day",
         "8 overtime contract week",
         "25 base contract month",
         "5 leaveRule rate carry term",
         "24 leave contract leaveDay",
         "12 leaveLeft person day",
-        "50 word what number",
-        "14 element element people",
+        "40 word what number",
+        "10 element nextElement people",
         "6 order element",
         "25 bonus person month place bonus",
         "10 contribution place month part ceiling",
@@ -31,7 +32,7 @@ final class RandomRunsTest {
         "8 pension person month saved",
         "6 yearTax place state month amount",
         "60 slip person month line",
-        "30 slipIn person month place line",
+        "30 slipIn person month place lineIn",
         "20 elementOf element person month",
         "14 pensionOf person month",
         "8 grossFor person month place net",
@@ -56,6 +57,7 @@ final class RandomRunsTest {
     private int contracts;
     private int lastDay;
     private int people;
+    private int chosen;
 
     private RandomRunsTest(int seed) {
         this.seed = seed;
@@ -74,9 +76,11 @@ final class RandomRunsTest {
         for (int seed = 1; seed <= RUNS; seed++) {
             RandomRunsTest test = new RandomRunsTest(seed);
             boolean alike = true;
-            for (int call = 0; call < CALLS && alike; call++) {
+            boolean sweeps = seed % 3 == 0;
+            for (int call = 0; call < (sweeps ? CALLS - SWEEP_CALLS : CALLS) && alike; call++) {
                 alike = test.step(sum, ofModel, ofClass);
             }
+            alike = alike && (!sweeps || test.sweep());
             Check.tell(alike, "random run " + seed, test.told.toString(), "as the plain model answers");
         }
     }
@@ -100,7 +104,8 @@ final class RandomRunsTest {
         Object[] arguments = new Object[words.length - 2];
         for (int i = 0; i < arguments.length; i++) {
             Class<?> type = plain.getParameterTypes()[i];
-            long number = random.nextInt(60) == 0 ? wild() : argument(words[i + 2]);
+            long number = random.nextInt(80) == 0 ? wild() : argument(words[i + 2]);
+            chosen = words[i + 2].equals("contract") ? (int) number : chosen;
             arguments[i] = type == boolean.class ? (Object) (number % 2 == 1)
                 : type == long.class ? (Object) number : (Object) (int) number;
         }
@@ -117,10 +122,30 @@ final class RandomRunsTest {
         return got.equals(due);
     }
 
+    /** All slips of a person, behind whatever was told. */
+    private boolean sweep() {
+        int person = between(0, people - 1);
+        for (int month = 0; month < 24; month++) {
+            for (int what = 0; what < 8; what++) {
+                long got = object.slip(person, month, what);
+                long due = model.slip(person, month, what);
+                if (got != due) {
+                    told.append("\n  slip[").append(person).append(", ").append(month).append(", ").append(what).append("] = ")
+                        .append(got).append(" but ").append(due).append(" (seed ").append(seed).append(')');
+                    return false;
+                }
+            }
+        }
+        return true;
+    }
+
     private String pick(int sum) {
         int left = random.nextInt(sum);
         if (contracts < 2 && random.nextInt(3) == 0) {
             return CALL_KINDS[0];
+        }
+        if (model.draft().size() > random.nextInt(4) && PlainModel.pileOf(model.draft()) == 1 && random.nextInt(8) == 0) {
+            return "1 element nextElement people";
         }
         for (String kind : CALL_KINDS) {
             left -= Integer.parseInt(kind.split(" ")[0]);
@@ -163,8 +188,8 @@ final class RandomRunsTest {
             case "place": return random.nextInt(3) == 0 ? between(0, 2) : 0;
             case "contract": return between(0, Math.max(0, contracts - 1));
             case "day": return oneOf(between(0, 719), 0, 719, Math.min(719, lastDay + between(0, 90)));
-            case "shiftDay": return random.nextInt(4) == 0 ? between(0, 719) : Math.min(719, lastDay + between(0, 20));
-            case "leaveDay": return random.nextInt(3) == 0 ? oneOf(359, 360, 390, 420, 719) : between(0, 719);
+            case "contractDay": return contractDay(random.nextInt(4) == 0 ? between(0, 719) : lastDay + between(0, 20));
+            case "leaveDay": return contractDay(random.nextInt(3) == 0 ? oneOf(30, 359, 360, 390, 420, 719) : between(0, 719));
             case "bool": return between(0, 1);
             case "norm": return oneOf(60, 600, 480, between(60, 600));
             case "pay": return oneOf(0, 1000000, between(0, 5000), between(0, 400000), between(0, 1000000));
@@ -175,24 +200,43 @@ final class RandomRunsTest {
         }
     }
 
+    private long contractDay(int day) {
+        PlainModel.Contract contract = model.contractOf(chosen);
+        if (contract == null || random.nextInt(15) == 0) {
+            return day;
+        }
+        return day >= contract.from() && day <= contract.to() ? day : between(contract.from(), contract.to());
+    }
+
+    /** A word that mostly keeps the draft such that it can become an element. */
+    private int what() {
+        int high = PlainModel.pileOf(model.draft());
+        if (random.nextInt(20) == 0) {
+            return between(0, 9);
+        }
+        return high >= 2 && random.nextInt(model.draft().size() + high > 8 ? 9 : 2) > 0 ? between(4, 9) : between(0, 3);
+    }
+
     private long moreArguments(String kind) {
         switch (kind) {
             case "month": return oneOf(0, 11, 12, 23, between(0, 23), lastDay / 30, Math.min(23, lastDay / 30 + 1), Math.min(23, model.open()));
             case "rate": return oneOf(0, 10, 25, between(0, 50), 50);
             case "carry": return oneOf(0, 15, between(0, 100), 500);
             case "term": return oneOf(1, 2, 12, between(1, 12));
-            case "what": return between(0, 9);
+            case "what": return what();
             case "number": return oneOf(between(0, 5), between(0, 2000), between(-1000000, 1000000));
-            case "element": return between(0, 5);
+            case "element": return random.nextInt(9) == 0 ? between(0, 5) : between(0, Math.max(0, model.elements() - 1));
+            case "nextElement": return random.nextInt(9) == 0 ? between(0, 6) : between(0, Math.min(5, model.elements()));
             case "people": return random.nextInt(3) == 0 ? between(0, 63) : 63;
             case "bonus": return oneOf(0, between(-10000000, 10000000), between(-300000, 300000), between(0, 500000));
-            case "part": return oneOf(0, 1, 100, between(0, 300), between(0, 500));
+            case "part": return oneOf(0, 1, 100, between(0, 300), between(0, 500), 500);
             case "ceiling": return oneOf(0, between(0, 1000000), between(0, 5000000), 100000000);
             case "state": return between(0, 1);
             case "end": return oneOf(1, between(1, 1000000), between(1, 10000000), between(1, 1000000000), 1000000000);
             case "saved": return oneOf(0, 49, 50, 51, between(0, 200));
             case "amount": return oneOf(0, between(0, 10000000), 1000000001) * (random.nextInt(9) == 0 ? 10L : 1L);
             case "line": return between(0, 7);
+            case "lineIn": return random.nextInt(20) == 0 ? between(0, 7) : oneOf(0, 1, 3);
             case "net": return oneOf(1, 1000000, between(1, 1000000), between(1, 50000));
             case "rank": return between(0, 2);
             case "total": return oneOf(1, between(1, 100000), between(1, 2000000), 100000000);
