@@ -5,6 +5,15 @@ public final class AllTests {
 
     public static void main(String[] args) {
         FaceTest.run();
+        ArgumentsTest.run();
+        LimitsTest.run();
+        TimeEdgesTest.run();
+        ContractEdgesTest.run();
+        LeaveEdgesTest.run();
+        ElementEdgesTest.run();
+        MoneyEdgesTest.run();
+        GarnishmentEdgesTest.run();
+        ClosingEdgesTest.run();
         ContractsTest.run();
         LeaveTest.run();
         ElementsTest.run();
